@@ -1348,7 +1348,6 @@ public final class LentFiddles {
             freeWorth = 0;
             freeCount = 0;
             Arrays.fill(fixedWorth, 0);
-            loads[0] = 0;
             for (int t = count - 1; t >= 0; t--) {
                 if (day[t] == onDay) {
                     int worth = violins.worths[violin[t]];
