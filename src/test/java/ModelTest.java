@@ -31,7 +31,7 @@ public final class ModelTest {
     private static int[][] trials;
     private static int[] ranks;
 
-    private static LentFiddles withLendings(int players, int violins, int mostTrial, int mostRank) {
+    private static LentFiddles withLendings(int players, int violins, int mostTrial, int mostRank, int sparse) {
         LentFiddles x = new LentFiddles();
         int[] makers = new int[violins];
         trials = new int[players][violins];
@@ -50,7 +50,7 @@ public final class ModelTest {
                 had = -1;
             }
             for (int v = 0; v < violins; v++) {
-                int t = below(mostTrial);
+                int t = below(sparse) == 0 ? below(mostTrial) : 0;
                 x.trial(p, v, t);
                 trials[p][v] = makers[v] == had ? 0 : t;
             }
@@ -118,7 +118,7 @@ public final class ModelTest {
     private static void lendings() {
         int players = below(6);
         int violins = below(6);
-        LentFiddles x = withLendings(players, violins, 1 + below(6), 1 + below(4));
+        LentFiddles x = withLendings(players, violins, 1 + below(6), 1 + below(4), 1);
         bestSum = -1;
         allRows(0, 0, 0, new int[players]);
         due.is(9, "sum", x.sum(), bestSum);
@@ -179,10 +179,10 @@ public final class ModelTest {
 
     /** Ten players and ten violins against a search by sets of violins. */
     private static void bigLendings() {
-        for (int round = 0; round < 60; round++) {
+        for (int round = 0; round < 120; round++) {
             int players = 7 + below(4);
             int violins = 7 + below(4);
-            LentFiddles x = withLendings(players, violins, 2 + below(99), 3);
+            LentFiddles x = withLendings(players, violins, 2 + below(round < 60 ? 99 : 4), 3, 1 + below(8));
             int[][] most = new int[players + 1][1 << violins];
             for (int p = players - 1; p >= 0; p--) {
                 for (int used = 0; used < 1 << violins; used++) {

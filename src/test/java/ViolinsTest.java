@@ -252,6 +252,10 @@ public final class ViolinsTest {
         LentFiddles z = withTrials(new int[][] {{0, 5, 3}, {5, 7, 5}, {4, 6, 0}});
         due.is(9, "several of 14", z.sum(), 14);
         isRow(10, z, 0, 1, 2, 0);
+        LentFiddles n = withTrials(new int[][] {{5, 3}, {2, 0}});
+        due.is(9, "one for one, or two for two", n.sum(), 5);
+        isRow(10, n, 0, 0, Due.NONE);
+        lastViolin();
         LentFiddles w = withTrials(new int[10][10]);
         due.is(9, "nobody may", w.sum(), 0);
         isRow(10, w, 0, -9, -9, -9, -9, -9, -9, -9, -9, -9, -9);
@@ -262,6 +266,19 @@ public final class ViolinsTest {
         LentFiddles f = withTrials(full);
         due.is(9, "the greatest sum", f.sum(), 990);
         isRow(10, f, 0, 0, 1, 2, 3, 4, 5, 6, 7, 8, 9);
+    }
+
+    /** None is behind the last of ten violins, too. */
+    private static void lastViolin() {
+        int[][] trials = new int[4][10];
+        for (int[] row : trials) {
+            row[9] = 5;
+        }
+        isRow(10, withTrials(trials), 0, 9, Due.NONE, Due.NONE, Due.NONE);
+        trials[0][9] = 4;
+        isRow(10, withTrials(trials), 0, Due.NONE, 9, Due.NONE, Due.NONE);
+        trials[3][8] = 1;
+        isRow(10, withTrials(trials), 0, Due.NONE, 9, Due.NONE, 8);
     }
 
     private static void calmOne() {
