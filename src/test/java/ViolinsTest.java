@@ -14,6 +14,8 @@ public final class ViolinsTest {
         ofPlayers();
         bestLending();
         bestOfSeveral();
+        noneBehindNine();
+        earlierPlayerFirst();
         calmOne();
         quarrels();
         quarrelRefusals();
@@ -279,6 +281,42 @@ public final class ViolinsTest {
         isRow(10, withTrials(trials), 0, Due.NONE, 9, Due.NONE, Due.NONE);
         trials[3][8] = 1;
         isRow(10, withTrials(trials), 0, Due.NONE, 9, Due.NONE, 8);
+    }
+
+    /** None is behind violin 9, also where another player's lower number would make up for that. */
+    private static void noneBehindNine() {
+        int[][] trials = new int[3][10];
+        trials[0][9] = 5;
+        trials[1][0] = 4;
+        trials[2][0] = 6;
+        trials[2][9] = 7;
+        LentFiddles x = withTrials(trials);
+        due.is(9, "two of 11", x.sum(), 11);
+        isRow(10, x, 0, 9, Due.NONE, 0);
+        trials[2][9] = 8;
+        isRow(10, withTrials(trials), 0, Due.NONE, 0, 9);
+    }
+
+    /** Of like sums the earlier player's lower number counts, whatever later ones have then, for each two of ten. */
+    private static void earlierPlayerFirst() {
+        for (int p = 0; p < 10; p++) {
+            for (int q = p + 1; q < 10; q++) {
+                for (int v = 0; v < 9; v++) {
+                    int[][] trials = new int[10][10];
+                    trials[p][v] = 9;
+                    trials[p][v + 1] = 4;
+                    trials[q][v] = 5;
+                    LentFiddles x = withTrials(trials);
+                    due.is(9, "two of 9", x.sum(), 9);
+                    due.is(10, "the earlier one", x.lent(p, 0), v);
+                    due.is(10, "the later one", x.lent(q, 0), Due.NONE);
+                    x.trial(q, v, 6);
+                    due.is(9, "one of 10", x.sum(), 10);
+                    due.is(10, "the earlier one", x.lent(p, 0), v + 1);
+                    due.is(10, "the later one", x.lent(q, 0), v);
+                }
+            }
+        }
     }
 
     private static void calmOne() {
