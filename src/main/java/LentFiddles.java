@@ -1286,8 +1286,8 @@ public final class LentFiddles {
             boolean behind = false;
             for (int h = 0; h < count; h++) {
                 if (violin[h] == v) {
-                    ahead |= to[h] < year;
-                    behind |= from[h] > year;
+                    ahead = ahead || to[h] < year;
+                    behind = behind || from[h] > year;
                 }
             }
             return ahead && behind;
@@ -1653,7 +1653,7 @@ public final class LentFiddles {
                     told = false;
                 } else {
                     run++;
-                    told |= hour != -1;
+                    told = told || hour != -1;
                     if (told || !withTold) {
                         longest = Math.max(longest, run);
                     }
